@@ -69,6 +69,15 @@ public final class LanguageTest {
         String constant = "public static final ";
         check.isTrue("the constants are the face's: " + fields, fields.equals(Set.of(constant + "NONE",
             constant + "BAD", constant + "STATE", constant + "FULL", constant + "NO")));
+        String values = "";
+        for (String name : List.of("NONE", "BAD", "STATE", "FULL", "NO")) {
+            try {
+                values += type.getField(name).get(null) + " ";
+            } catch (ReflectiveOperationException e) {
+                values += name + " is not to be had ";
+            }
+        }
+        check.isTrue("what they are: " + values, values.equals("-1 -2 -3 -4 -4611686018427387904 "));
         Constructor<?>[] constructors = type.getDeclaredConstructors();
         check.isTrue("one constructor", constructors.length == 1 && Modifier.isPublic(constructors[0].getModifiers())
             && constructors[0].getParameterCount() == 0);

@@ -41,6 +41,7 @@ public final class PromiseTest {
         promise11();
         promise12();
         wantsAndTurns();
+        workedAnew();
         promise13();
     }
 
@@ -422,6 +423,46 @@ public final class PromiseTest {
         due("the last gets less", x.takes(4, 4, 2), 6);
     }
 
+    /** Each thing that is told changes what was answered before. */
+    private void workedAnew() {
+        check.part("worked anew");
+        RiverCompact x = new RiverCompact();
+        x.hold(HALF, 0, 1, 50, 0);
+        due("nothing yet", x.takes(0, 17, 2), 0);
+        x.side(1, 5, 60);
+        due("no gauge", x.takes(0, 17, 1), 0);
+        x.gauge(0, 17, 80);
+        due("a gauge", x.takes(0, 17, 2), 40);
+        x.flood(1, 17, -30);
+        due("a flood", x.takes(0, 17, 2), 30);
+        x.sheet(0, 0, 1);
+        x.cell(0, 0, 44);
+        x.gauges(1, 17, 0, 0, 0, 1);
+        due("gauges", x.takes(0, 17, 2), 22);
+        due("no salt", x.told(1, 17, 5), 0);
+        x.salt(1, 99);
+        due("salt", x.told(1, 17, 5), 2);
+        x.lake(0, 100, 50, 0, 10);
+        due("a lake", x.told(1, 4, 2), 10);
+        x.release(0, 20);
+        due("its release", x.told(1, 2, 2), 10);
+        x.hold(HOLD, 0, 0, 5, 0);
+        due("a hold", x.told(1, 2, 2), 5);
+        x.force(1, 3, 9);
+        due("its months", x.told(1, 2, 2), 10);
+        due("it gets", x.takes(1, 5, 2), 0);
+        due("half gets", x.takes(0, 17, 2), 22);
+        x.hold(HOLD, 0, 2, 5, 0);
+        x.hold(HOLD, 3, 1, 9, 7);
+        due("what is left", x.takes(3, 17, 2), 8);
+        x.call(2, 17);
+        due("a call", x.takes(3, 17, 2), 0);
+        due("not of the half", x.takes(0, 17, 2), 22);
+        text(x, "may 0;cut 0;");
+        x.rule(0, 1);
+        due("a rule", x.takes(0, 17, 2), 0);
+    }
+
     private void promise13() {
         check.part("promise 13");
         RiverCompact x = new RiverCompact();
@@ -606,7 +647,36 @@ public final class PromiseTest {
         fault("may 1 cut 0;", 6);
         fault("may 1;0;", 6);
         fault("may 1month;;", 5);
+        tapesAnew();
         textsFull();
+    }
+
+    /** What stood on the tape before is gone. */
+    private void tapesAnew() {
+        RiverCompact x = new RiverCompact();
+        due("too long", text(x, "may 1;cut 00000;"), -110);
+        due("ends at a number", text(x, "may 1;cut 0"), -111);
+        due("no name", text(x, "may monthxx;"), -104);
+        due("ends at a name", text(x, "may month"), -109);
+        due("ends at a key", text(x, "may"), -103);
+        for (int i = 0; i < 20; i++) {
+            x.feed(8, 0x6161616161616161L);
+        }
+        due("a word of 160", x.text(), -100);
+        for (int i = 0; i < 20; i++) {
+            x.feed(8, 0x3131313131313131L);
+        }
+        due("a number of 160", x.text(), -100);
+        StringBuilder words = new StringBuilder("may 1");
+        while (words.length() < 150) {
+            words.append("+1");
+        }
+        words.setLength(150);
+        due("a long one", text(x, words + "1;cut -77;"), 1);
+        x.hold(HOLD, 0, 0, 1, 0);
+        x.rule(0, 1);
+        due("its may", x.says(0, 0, 0), 74);
+        due("its cut", x.says(0, 0, 1), -77);
     }
 
     private void textsFull() {
@@ -695,6 +765,11 @@ public final class PromiseTest {
         due("or of none", worth("0 or 0", 0), 0);
         due("and", worth("5 and 7", 0), 1);
         due("and of one", worth("5 and 0", 0), 0);
+        due("and of 1", worth("1 and 6", 0), 1);
+        due("and of 1 behind", worth("6 and 1", 0), 1);
+        due("none and one", worth("0 and 6", 0), 0);
+        due("or of the first", worth("6 or 0", 0), 1);
+        due("or of 1", worth("1 or 0", 0), 1);
         due("not", worth("not 7", 0), 0);
         due("not 0", worth("not 0", 0), 1);
         due("not not", worth("not not 9", 0), 1);
@@ -743,6 +818,13 @@ public final class PromiseTest {
         due("may 0", x.takes(0, 12, 1), 0);
         x.rule(0, 3);
         due("3 of 10 are cut", x.takes(0, 5, 1), 7);
+        x.hold(HOLD, 0, 0, 1000, 0);
+        due("330 of 1000", x.takes(1, 5, 1), 670);
+        x.rule(0, 1);
+        due("not more than all", x.takes(1, 5, 1), 0);
+        x.rule(0, 2);
+        due("not more than it asks", x.takes(1, 5, 1), 1000);
+        lakesAndNames();
         RiverCompact y = new RiverCompact();
         y.lake(3, 1000, 1000, 0, 100);
         y.lake(5, 5000, 0, 0, 0);
@@ -756,6 +838,23 @@ public final class PromiseTest {
         due("and then may not", y.takes(1, 1, 1), 0);
         due("nor above the lakes", y.takes(0, 1, 1), 0);
         due("when half is there", y.lakeTold(3, 5, 0), 500);
+    }
+
+    private void lakesAndNames() {
+        RiverCompact x = new RiverCompact();
+        x.lake(0, 100, 70, 0, 0);
+        x.lake(6, 100, 5, 0, 0);
+        x.hold(HOLD, 0, 0, 1, 50);
+        x.hold(HOLD, 1, 0, 1, 60);
+        text(x, "may level;cut rank + state;");
+        x.rule(0, 1);
+        x.rule(1, 1);
+        due("of the first and the last reach", x.says(0, 0, 0), 75);
+        due("of one hold", x.says(0, 40, 1), 50);
+        due("of another", x.says(1, 0, 1), 61);
+        due("of the one again", x.says(0, 0, 1), 50);
+        x.lake(3, 9, 2, 0, 0);
+        due("a lake more", x.says(0, 95, 0), 77);
     }
 
     private static RiverCompact twoReaches() {
@@ -973,6 +1072,15 @@ public final class PromiseTest {
         x.hold(HOLD, 0, 6, 1, 0);
         x.call(0, 7);
         due("a call shuts it", x.found(0, 1, 9999, 1011), 2);
+        RiverCompact y = new RiverCompact();
+        y.flood(0, 95, 10);
+        for (int i = 0; i < 15; i++) {
+            y.hold(HOLD, 0, 0, i == 14 ? 10 : 0, 9);
+        }
+        due("the sixteenth, in month 95", y.found(0, 0, 1, 0), 1 << 14);
+        due("again", y.found(0, 0, 1, 0), 1 << 14);
+        due("full at once", y.hold(HOLD, 0, 0, 1, 9), 15);
+        due("full then", y.found(0, 0, 1, 0), -4);
         for (int i = 4; i < 16; i++) {
             x.hold(HOLD, 0, 6, 1, 0);
         }
@@ -1031,6 +1139,12 @@ public final class PromiseTest {
         y.hold(HOLD, 0, 1, 10, 3);
         due("one less, one more", y.sold(0, 1), 4);
         due("nothing together", y.harm(0, 1), 0);
+        RiverCompact z = new RiverCompact();
+        z.flood(0, 95, 10);
+        z.hold(HOLD, 0, 0, 10, 2);
+        z.hold(HOLD, 0, 1, 10, 1);
+        due("in month 95 alone", z.harm(1, 0), 10);
+        due("at once asked", z.sold(1, 0), 1);
     }
 
     private void promise29() {
@@ -1092,12 +1206,33 @@ public final class PromiseTest {
         due("of like ones the least", y.held(0, 0), 0);
         y.release(5, 1);
         due("half of 1 is 0", y.held(0, 0), 3);
+        heldInTheLastMonth();
         y.lake(6, 0, 0, 0, 5);
         due("three", y.held(0, 0) >= 0 ? 1 : 0, 1);
         y.lake(0, 0, 0, 0, 5);
         due("four", y.held(0, 0), -6);
         due("bad ahead of four", y.held(0, 2), NO);
         due("four and too much power", y.held(2000000000, 0), -6);
+    }
+
+    private void heldInTheLastMonth() {
+        RiverCompact x = new RiverCompact();
+        x.flood(3, 94, 5000);
+        x.lake(3, 99999, 0, 1, 50);
+        // 5000, 4975, 4950 or 4900 as month 95 begins: 5 or 4 of steam, a head of 50 or 49
+        due("of like ones the least", x.held(0, 0), 1);
+        due("its steam", x.held(0, 1), 4);
+        due("25 through 49", x.held(25 * 49, 0), 1);
+        due("50 through 49", x.held(25 * 49 + 1, 0), 2);
+        due("100 through 49", x.held(50 * 49 + 1, 0), 3);
+        due("no more", x.held(100 * 49 + 1, 0), -5);
+        RiverCompact y = new RiverCompact();
+        y.lake(0, 9000, 1000, 90, 20);
+        y.lake(6, 9000, 1000, 90, 30);
+        y.dry(0, 0);
+        due("the first and the last reach", y.held(0, 0), 3 * 4 + 3);
+        y.lake(6, 9000, 1000, 0, 30);
+        due("only the first steams", y.held(0, 0), 3 * 4);
     }
 
     private void promise31() {
@@ -1131,6 +1266,7 @@ public final class PromiseTest {
         due("what is told stays", x.takes(0, 4, 2), 100);
         x.hold(RIGHT, 0, 5, 150, 4);
         due("all of them", x.dry(15, 50), 14);
+        whatIsLeftDryGetsNothing();
         for (int i = 4; i < 16; i++) {
             x.hold(HOLD, 0, 0, 0, 0);
         }
@@ -1140,6 +1276,41 @@ public final class PromiseTest {
         due("the last ones", x.dry(0xe00b, 100), 11);
         due("all bits", x.dry(0xffff, 100), -2);
         due("bits 65536", x.dry(0x10000, 100), -2);
+    }
+
+    private void whatIsLeftDryGetsNothing() {
+        RiverCompact x = new RiverCompact();
+        x.side(5, 4, 50);
+        x.salt(5, 99);
+        x.hold(RIGHT, 0, 5, 20, 0);
+        // 4 of salt in 50; were 1 taken, 4 in 49
+        due("80 of the bound", x.dry(1, 80), 1);
+        due("79 is too low", x.dry(1, 79), -1);
+        due("the others are not", x.sharp(4), 100);
+        RiverCompact y = new RiverCompact();
+        y.side(5, 11, 1000);
+        y.salt(5, 50);
+        y.side(6, 0, 100);
+        y.hold(RESERVE, 0, 5, 300, 0);
+        y.hold(RESERVE, 0, 5, 300, 0);
+        y.force(1, 0, 95);
+        due("the one that gets nothing in month 95", y.dry(3, 90), 2);
+        y.force(1, 0, 96);
+        due("of like ones the least", y.dry(3, 90), 1);
+        y.hold(RESERVE, 0, 5, 200, 0);
+        due("the cheapest, though the last", y.dry(7, 105), 4);
+        RiverCompact z = new RiverCompact();
+        z.flood(5, 94, 1000);
+        z.salt(5, 50);
+        z.hold(RESERVE, 0, 5, 300, 10);
+        due("salt in month 95", z.dry(0, 100), -1);
+        due("none then", z.dry(1, 100), 1);
+        z.salt(6, 50);
+        z.flood(6, 0, 1000);
+        due("salt in month 0", z.dry(1, 49), -1);
+        due("as much as may be", z.dry(1, 50), 1);
+        due("it is told as ever", z.found(0, 5, 800, 0), 1);
+        due("and what it gets", z.harm(0, 6), 0);
     }
 
     private void promise32() {
