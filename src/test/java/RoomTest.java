@@ -9,14 +9,13 @@ public final class RoomTest {
     public static void main(String[] args) {
         Check check = new Check("RoomTest");
         ThreadMXBean threads = (ThreadMXBean) ManagementFactory.getThreadMXBean();
-        long self = Thread.currentThread().getId();
         manyCalls(new RiverCompact());
 
-        long start = threads.getThreadAllocatedBytes(self);
+        long start = threads.getCurrentThreadAllocatedBytes();
         RiverCompact x = new RiverCompact();
-        long made = threads.getThreadAllocatedBytes(self);
+        long made = threads.getCurrentThreadAllocatedBytes();
         long answers = manyCalls(x);
-        long called = threads.getThreadAllocatedBytes(self);
+        long called = threads.getCurrentThreadAllocatedBytes();
         check.isTrue("an object takes " + (made - start) + " bytes", made - start < MOST_OF_AN_OBJECT);
         check.isTrue("the calls take " + (called - made) + " bytes", called - made < 200);
         check.isTrue("they answered", answers != 0);
