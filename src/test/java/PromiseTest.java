@@ -607,6 +607,13 @@ public final class PromiseTest {
         fault("cut 0;may 1;", 0);
         fault("mayor 1;cut 0;", 0);
         fault("May 1;cut 0;", 0);
+        fault("day 1;cut 0;", 0);
+        fault("may 1;put 0;", 6);
+        fault("may dead;cut 0;", 4);
+        fault("may bank;cut 0;", 4);
+        fault("may rant;cut 0;", 4);
+        fault("may lever;cut 0;", 4);
+        fault("may 1 ant 1;cut 0;", 6);
         fault("may 12345;cut 0;", 4);
         fault("may 00001;cut 0;", 4);
         fault("may 1 2;cut 0;", 6);
@@ -1174,6 +1181,13 @@ public final class PromiseTest {
         due("year 8", x.unlike(0, 1, 0, 8), NO);
         due("texts stay", x.count(8), 0);
         due("what is told stays", x.takes(0, 0, 2), 60);
+        for (int i = 2; i < 16; i++) {
+            x.hold(HOLD, i < 15 ? 0 : 3, 0, i < 15 ? 0 : 10, 0);
+        }
+        due("of the sixteenth", x.unlike(0, 1, 3, 0), 12 * 5);
+        x.call(0, 40);
+        due("sixteen and a call", x.takes(15, 40, 4), 0);
+        due("it shuts the second", x.takes(1, 40, 4), 1);
     }
 
     private void promise30() {
@@ -1299,17 +1313,26 @@ public final class PromiseTest {
         due("of like ones the least", y.dry(3, 90), 1);
         y.hold(RESERVE, 0, 5, 200, 0);
         due("the cheapest, though the last", y.dry(7, 105), 4);
+        RiverCompact first = new RiverCompact();
+        first.side(5, 0, 1000);
+        first.salt(5, 50);
+        first.side(6, 1, 100);
+        first.hold(RESERVE, 0, 5, 300, 0);
+        first.hold(RESERVE, 0, 5, 300, 0);
+        first.force(1, 1, 96);
+        due("the one that gets nothing in month 0", first.dry(3, 90), 2);
         RiverCompact z = new RiverCompact();
         z.flood(5, 94, 1000);
         z.salt(5, 50);
         z.hold(RESERVE, 0, 5, 300, 10);
         due("salt in month 95", z.dry(0, 100), -1);
         due("none then", z.dry(1, 100), 1);
-        z.salt(6, 50);
+        z.salt(6, 60);
         z.flood(6, 0, 1000);
-        due("salt in month 0", z.dry(1, 49), -1);
-        due("as much as may be", z.dry(1, 50), 1);
-        due("it is told as ever", z.found(0, 5, 800, 0), 1);
+        due("salt in month 0", z.dry(1, 59), -1);
+        due("as much as may be", z.dry(1, 60), 1);
+        due("it is told as ever", z.found(0, 5, 0, 0), 0);
+        due("it may get less", z.found(0, 5, 800, 0), 1);
         due("and what it gets", z.harm(0, 6), 0);
     }
 
