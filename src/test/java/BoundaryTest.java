@@ -20,7 +20,7 @@ public final class BoundaryTest {
         Cases[] groups = {new ReachCases(check), new LakeCases(check), new HoldCases(check),
             new TakesCases(check), new CallCases(check), new TapeCases(check),
             new TextCases(check), new MonthCases(check), new IfCases(check), new HeldCases(check),
-            new DryCases(check), new SheetCases(check), new HostCases(check)};
+            new DryCases(check), new SheetCases(check), new HostCases(check), new AnewCases(check)};
         List<Cases.Sentence> sentences = new ArrayList<>();
         for (Cases group : groups) {
             group.work();

@@ -172,5 +172,13 @@ final class CallCases extends Cases {
         due("where nothing is there", z.helps(1), 0);
         z.call(0, 4);
         due("who calls above shuts nobody below", z.helps(2), 0);
+        RiverCompact u = upstream(4, 200);
+        u.rule(0, Rivers.text(u, "may 1;cut 50;"));
+        due("without it the other one's text is as it is", u.helps(0), 35);
+        RiverCompact v = upstream(4, 60);
+        v.hold(HOLD, 0, 2, 100, 4);
+        v.call(2, 4);
+        due("who called is shut itself by another call", v.helps(0), 0);
+        due("without that one, the first call shuts all the same", v.helps(1), 60);
     }
 }

@@ -176,6 +176,18 @@ final class DryCases extends Cases {
         due("both", x.dry(3, 1), 3);
         due("asking leaves it as it was", x.takes(0, 10, 1), 100);
         due("and what it gets", x.takes(0, 10, 2), 100);
+        RiverCompact y = ofSalt(1, 1000);
+        due("it must be dry", y.dry(1, 0), 1);
+        y.force(0, 11, 96);
+        due("it is not in force, and need not", y.dry(1, 0), 0);
+        RiverCompact z = ofSalt(1, 1000);
+        z.rule(0, Rivers.text(z, "may month < 10;cut 0;"));
+        due("by its text it may not, and need not", z.dry(1, 0), 0);
+        RiverCompact u = ofSalt(1, 1000);
+        u.hold(HOLD, 0, 5, 50, 1);
+        u.call(0, 10);
+        due("one that is shut takes nothing in its place", u.dry(1, 0), 1);
+        due("nor need it be dry", u.dry(3, 0), 1);
     }
 
     private void count() {

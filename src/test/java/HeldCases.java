@@ -14,6 +14,7 @@ final class HeldCases extends Cases {
         steamIsLeast();
         steamOfAll();
         digits();
+        asTold();
     }
 
     private void heldNumbers() {
@@ -216,5 +217,33 @@ final class HeldCases extends Cases {
         y.hold(HOLD, 0, 4, 9999, 0);
         due("three as much as they can", y.held(18000, 0), 63);
         due("three, no more", y.held(18001, 0), NO_CHOICE);
+    }
+
+    /** 200 come to a lake of 100 in month 0 if a hold above it lets them: without them it has 100 of power at most. */
+    private static RiverCompact belowHold() {
+        RiverCompact x = new RiverCompact();
+        x.flood(0, 0, 200);
+        x.hold(HOLD, 1, 0, 9999, 5);
+        x.hold(HOLD, 0, 1, 0, 4);
+        x.lake(3, 9999, 100, 0, 100);
+        return x;
+    }
+
+    private void asTold() {
+        says(30, "each LAKE (3 at most, else it can't be asked) has RELEASE 0");
+        due("the hold takes all", belowHold().held(101, 0), NO_CHOICE);
+        due("what is in it", belowHold().held(100, 0), 2);
+        RiverCompact x = belowHold();
+        x.rule(1, Rivers.text(x, "may 0;cut 0;"));
+        due("by its text it takes none", x.held(101, 0), 1);
+        RiverCompact y = belowHold();
+        y.call(1, 0);
+        due("it is shut", y.held(101, 0), 1);
+        RiverCompact z = belowHold();
+        z.call(1, 1);
+        due("it is shut in another month", z.held(101, 0), NO_CHOICE);
+        RiverCompact u = belowHold();
+        u.force(0, 1, 96);
+        due("it is not in force", u.held(101, 0), 1);
     }
 }

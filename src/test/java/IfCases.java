@@ -215,6 +215,16 @@ final class IfCases extends Cases {
         z.call(0, 4);
         due("a call shuts from the reach that it is sold to", z.sold(0, 1), 2);
         due("not from its own", z.sold(0, 0), 0);
+        RiverCompact u = new RiverCompact();
+        u.flood(0, 4, 100);
+        u.hold(HOLD, 1, 3, 100, 1);
+        u.hold(HOLD, 0, 1, 100, 2);
+        u.rule(1, Rivers.text(u, "may level < 0;cut 0;"));
+        due("there, too, it may not", u.sold(0, 0), 0);
+        due("there, too, it harms none", u.harm(0, 0), 0);
+        u.rule(1, 0);
+        due("now it may", u.sold(0, 0), 2);
+        due("now it harms", u.harm(0, 0), 100);
     }
 
     private void soldOthersAlone() {
@@ -230,7 +240,6 @@ final class IfCases extends Cases {
         }
         y.hold(HOLD, 0, 2, 15, 0);
         due("of sixteen the first fifteen", y.sold(15, 0), (1 << 15) - 1);
-        y.hold(HOLD, 0, 2, 15, 0);
         RiverCompact z = new RiverCompact();
         Rivers.always(z, 0, 15);
         z.hold(HOLD, 0, 2, 1, 0);
@@ -323,6 +332,15 @@ final class IfCases extends Cases {
         RiverCompact x = downAndUp(100);
         x.hold(HOLD, 0, 2, 25, 5);
         due("of two both", x.harm(0, 0), 96 * (40 + 25));
+        RiverCompact y = new RiverCompact();
+        Rivers.always(y, 0, 15);
+        y.hold(HOLD, 0, 2, 15, 0);
+        for (int i = 1; i < 16; i++) {
+            y.hold(HOLD, 0, 1, 1, i);
+        }
+        due("of fifteen others all", y.harm(0, 0), 96 * 15);
+        due("of fifteen others none", y.harm(0, 3), 0);
+        due("the last one's others", y.harm(15, 6), 0);
     }
 
     private void unlikeNumbers() {
@@ -402,5 +420,17 @@ final class IfCases extends Cases {
         z.hold(HOLD, 1, 1, 100, 0);
         due("of the other states, too", z.unlike(1, 0, 1, 0), 1200);
         due("none is left for them", z.unlike(1, 0, 0, 0), -1200);
+        RiverCompact u = byTexts(0);
+        u.force(0, 0, 95);
+        due("what is not in force is not unlike", u.unlike(0, 1, 0, 7), 11 * 30);
+        RiverCompact v = new RiverCompact();
+        Rivers.always(v, 0, 16);
+        Rivers.text(v, "may 0;cut 0;");
+        for (int i = 0; i < 16; i++) {
+            v.hold(HOLD, 3, 0, 1, i + 1);
+        }
+        due("sixteen holds of a state", v.unlike(0, 1, 3, 7), 16 * 12);
+        v.call(0, 90);
+        due("fifteen of them are shut once", v.unlike(0, 1, 3, 7), 16 * 12 - 15);
     }
 }

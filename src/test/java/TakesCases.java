@@ -254,12 +254,14 @@ final class TakesCases extends Cases {
         says(12, "BACK: GETS times BACK hundredths by 100; its SALT: what it took, and GETS by 50.");
         int[] last0 = {9999, 2, 4, 1, 4, 1};
         int[] last1 = {9999, 4, 9, 3, 9, 3};
+        int[] of9999 = {0, 3999, 1999, 4999, 1999, 4999};
         for (int kind = 1; kind < 6; kind++) {
             due("kind " + kind + " of " + last0[kind] + " is cut", back(kind, last0[kind]), 0);
             due("kind " + kind + " of " + (last0[kind] + 1), back(kind, last0[kind] + 1), 1);
             due("kind " + kind + " of " + last1[kind] + " is cut", back(kind, last1[kind]), 1);
             due("kind " + kind + " of " + (last1[kind] + 1), back(kind, last1[kind] + 1), 2);
             due("kind " + kind + " of nothing", back(kind, 0), 0);
+            due("kind " + kind + " of 9999", back(kind, 9999), of9999[kind]);
         }
         due("a hold gives none back", back(HOLD, 9999), 0);
         due("49 by 50 are cut", saltOf(49), 0);

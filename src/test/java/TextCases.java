@@ -164,6 +164,12 @@ final class TextCases extends Cases {
         fault("may (((((1*-1)))));cut 0;", 11);
         fault("may (((((1<-1)))));cut 0;", 11);
         fault("may (((((1 or not 1)))));cut 0;", 14);
+        says(17, "THE TAPE, which is empty then (by a FAULT, too)");
+        RiverCompact x = new RiverCompact();
+        due("a fault with five open", Rivers.text(x, "may (((((?"), -109);
+        due("five are open anew", Rivers.text(x, "may (((((1)))));cut 0;"), 1);
+        due("a fault of a sixth", Rivers.text(x, "may -----(1);cut 0;"), -109);
+        due("five anew", Rivers.text(x, "may -----1;cut not not not not not 1;"), 2);
     }
 
     private void closedAgain() {
@@ -279,6 +285,9 @@ final class TextCases extends Cases {
         due("no lake, no gauge, state 0", x.says(0, 0, 1), 0);
         x.hold(DITCH, 0, 0, 1, 9999);
         due("the greatest rank", x.says(1, 0, 0), 10000);
+        due("the least rank, with another one behind it", x.says(0, 0, 0), -2000);
+        due("asked for month 95", x.says(1, 95, 0), 10000);
+        due("the least rank, in a month that was worked out", x.says(0, 3, 0), -2000);
     }
 
     private void levels() {
