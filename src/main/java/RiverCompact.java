@@ -800,12 +800,16 @@ public final class RiverCompact {
 
         private void findTokens() {
             int found = 0;
-            for (int place = 0; place < size; place += lengthAt(place)) {
+            int place = 0;
+            // Each step takes a byte at least, so the tape ends within as many steps as it has bytes.
+            for (int step = 0; step < TAPE && place < size; step++) {
+                int length = lengthAt(place);
                 if (tape[place] != ' ' && tape[place] != '\n') {
-                    tokens[found] = tokenAt(place, place + lengthAt(place));
+                    tokens[found] = tokenAt(place, place + length);
                     places[found] = place;
                     found++;
                 }
+                place += length;
             }
             tokens[found] = END;
             places[found] = size;

@@ -34,6 +34,7 @@ final class AnewCases extends Cases {
         inTurn(31, "dry, none", x -> x.dry(63, 0));
         toldBetween();
         noSheetsOfMonths();
+        mostCalls();
     }
 
     /** Everything is asked that works the months out or tries what would be. */
@@ -122,5 +123,24 @@ final class AnewCases extends Cases {
         x.copy(0, 0, 0, 1, 2);
         Rivers.text(x, "may 0;cut 0;");
         due("neither a sheet nor a text of no state changes a month", x.sum(2), before);
+    }
+
+    private void mostCalls() {
+        says(1, "An object is used for at most 512 calls after it has been made");
+        RiverCompact x = two();
+        for (int calls = 3; calls < 511; calls += 4) {
+            x.side(0, 4, calls);
+            x.dry(3, calls);
+            x.text();
+            x.gauges(0, 0, 0, 0, 0, 24);
+        }
+        due("the 512th call", x.takes(1, 4, 2), 100);
+        RiverCompact y = new RiverCompact();
+        int was = 0;
+        for (int calls = 1; calls < 512; calls++) {
+            was = y.side(6, 11, calls);
+        }
+        due("the 511th call", was, 510);
+        due("the 512th call of the same", y.side(6, 11, 0), 511);
     }
 }

@@ -111,4 +111,19 @@ abstract class Cases {
             refusedOn(river, name + " " + n, x -> call.on(x, n), want);
         }
     }
+
+    /** A text by itself: its number, or its fault. */
+    static int text(String words) {
+        return Rivers.text(new RiverCompact(), words);
+    }
+
+    /** One case: there is no fault in a text. */
+    final void stands(String words) {
+        due("'" + words + "' stands", text(words), 1);
+    }
+
+    /** One case: where the fault of a text is. */
+    final void fault(String words, int place) {
+        due("fault of '" + words + "'", text(words), -100 - place);
+    }
 }

@@ -56,19 +56,6 @@ final class TapeCases extends Cases {
         taken("behind the tape, not in its place", x -> x.feed(1, '2'), 6, x -> Rivers.text(x, ";cut 0;"), 2);
     }
 
-    /** A text by itself: its number, or its fault. */
-    private static int text(String words) {
-        return Rivers.text(new RiverCompact(), words);
-    }
-
-    private void stands(String words) {
-        due("'" + words + "' stands", text(words), 1);
-    }
-
-    private void fault(String words, int place) {
-        due("fault of '" + words + "'", text(words), -100 - place);
-    }
-
     private void tapeEmptied() {
         says(17, "THE TAPE, which is empty then (by a FAULT, too), is a TEXT: its number; -100 less the place of its FAULT.");
         taken("empty behind a text", x -> Rivers.text(x, ";cut 0;"), 2, x -> x.count(6), 0);

@@ -23,18 +23,6 @@ final class TextCases extends Cases {
         order();
     }
 
-    private static int text(String words) {
-        return Rivers.text(new RiverCompact(), words);
-    }
-
-    private void stands(String words) {
-        due("'" + words + "' stands", text(words), 1);
-    }
-
-    private void fault(String words, int place) {
-        due("fault of '" + words + "'", text(words), -100 - place);
-    }
-
     private void parts() {
         says(17, "TEXT: may E ; cut E ;");
         stands("may 1;cut 0;");
