@@ -175,6 +175,10 @@ final class CallCases extends Cases {
         RiverCompact u = upstream(4, 200);
         u.rule(0, Rivers.text(u, "may 1;cut 50;"));
         due("without it the other one's text is as it is", u.helps(0), 35);
+        RiverCompact w = upstream(4, 100);
+        w.lake(6, 9, 9, 0, 0);
+        w.rule(0, Rivers.text(w, "may level < 10;cut level * 10 * (rank=9);"));
+        due("without it the other one wants by levels", w.helps(0), 7);
         RiverCompact v = upstream(4, 60);
         v.hold(HOLD, 0, 2, 100, 4);
         v.call(2, 4);

@@ -183,6 +183,12 @@ final class DryCases extends Cases {
         RiverCompact z = ofSalt(1, 1000);
         z.rule(0, Rivers.text(z, "may month < 10;cut 0;"));
         due("by its text it may not, and need not", z.dry(1, 0), 0);
+        for (int level = 70; level <= 71; level++) {
+            RiverCompact v = ofSalt(1, 1000);
+            v.lake(0, 100, level, 0, 0);
+            v.rule(0, Rivers.text(v, "may level < 71;cut 0;"));
+            due("by a level of " + level, v.dry(1, 0), 71 - level);
+        }
         RiverCompact u = ofSalt(1, 1000);
         u.hold(HOLD, 0, 5, 50, 1);
         u.call(0, 10);

@@ -236,6 +236,12 @@ final class HeldCases extends Cases {
         RiverCompact x = belowHold();
         x.rule(1, Rivers.text(x, "may 0;cut 0;"));
         due("by its text it takes none", x.held(101, 0), 1);
+        RiverCompact v = belowHold();
+        v.rule(1, Rivers.text(v, "may level < 100;cut 0;"));
+        due("by the level it takes none", v.held(101, 0), 1);
+        RiverCompact w = belowHold();
+        w.rule(1, Rivers.text(w, "may level < 101;cut 0;"));
+        due("by the level it takes all", w.held(101, 0), NO_CHOICE);
         RiverCompact y = belowHold();
         y.call(1, 0);
         due("it is shut", y.held(101, 0), 1);

@@ -12,6 +12,7 @@ final class IfCases extends Cases {
         foundInAllMonths();
         foundAsOthers();
         foundBits();
+        byLevel();
         sold();
         soldTakes();
         soldOthersAlone();
@@ -164,6 +165,30 @@ final class IfCases extends Cases {
         due("of fifteen the last two", x.found(0, 0, 2, 0), 3 << 13);
         due("of fifteen all but the first", x.found(0, 0, 14, 0), (1 << 15) - 2);
         due("of fifteen all", x.found(0, 0, 15, 0), (1 << 15) - 1);
+    }
+
+    /** The river of one hold, with a lake that is full, and another one by the text of state 1. */
+    private static RiverCompact fullLake(String words) {
+        RiverCompact x = oneHold(100);
+        x.lake(0, 30, 30, 0, 0);
+        x.hold(HOLD, 1, 1, 1, 0);
+        x.rule(1, Rivers.text(x, words));
+        return x;
+    }
+
+    private void byLevel() {
+        says(26, "level: LEVELS of all LAKES as the MONTH begins, together");
+        due("found, it may not", fullLake("may level < 30;cut 0;").found(1, 0, 1, 0), 0);
+        due("found, it may", fullLake("may level < 31;cut 0;").found(1, 0, 1, 0), 1);
+        says(27, "level: LEVELS of all LAKES as the MONTH begins, together");
+        due("sold, it may not", fullLake("may level < 30;cut 0;").sold(1, 0), 0);
+        due("sold, it may", fullLake("may level < 31;cut 0;").sold(1, 0), 1);
+        says(28, "level: LEVELS of all LAKES as the MONTH begins, together");
+        due("harm, it may not", fullLake("may level < 30;cut 0;").harm(1, 0), 0);
+        due("harm, it may", fullLake("may level < 31;cut 0;").harm(1, 0), 96);
+        says(29, "level: LEVELS of all LAKES as the MONTH begins, together");
+        due("30 hundredths of 100", fullLake("may 1;cut level;").unlike(0, 1, 0, 7), 12 * 30);
+        due("it may not", fullLake("may level < 30;cut 0;").unlike(0, 1, 0, 0), 1200);
     }
 
     private void sold() {

@@ -11,6 +11,7 @@ final class TakesCases extends Cases {
         asksCut();
         wantsByCut();
         wantsByMay();
+        wantsByLevel();
         gets();
         turns();
         salts();
@@ -145,6 +146,25 @@ final class TakesCases extends Cases {
         due("not shut", x.takes(1, 7, 1), 80);
         due("it asks though it is not in force", x.takes(0, 7, 0), 70);
         due("it asks though it is shut", x.takes(1, 6, 0), 80);
+    }
+
+    private void wantsByLevel() {
+        says(12, "level: LEVELS of all LAKES as the MONTH begins, together");
+        RiverCompact x = new RiverCompact();
+        x.lake(6, 9999, 1000, 0, 10);
+        x.hold(HOLD, 1, 0, 500, 0);
+        x.rule(1, Rivers.text(x, "may level < 1000;cut level-960;"));
+        due("1000: it may not", x.takes(0, 0, 1), 0);
+        due("990: 30 hundredths are cut", x.takes(0, 1, 1), 350);
+        due("970: 10 hundredths are cut", x.takes(0, 3, 1), 450);
+        due("960: none are cut", x.takes(0, 4, 1), 500);
+        due("950: none are cut", x.takes(0, 5, 1), 500);
+        due("50 in month 95", x.takes(0, 95, 1), 500);
+        x.flood(0, 1, 1000);
+        due("it gets what it wants", x.takes(0, 1, 2), 350);
+        due("990 less 10 and 650 are 1630: it may not", x.takes(0, 2, 1), 0);
+        x.lake(5, 9999, 1, 0, 0);
+        due("991 of two lakes", x.takes(0, 1, 1), 345);
     }
 
     /** What the last of some holds at reach 0 gets of 100. */
