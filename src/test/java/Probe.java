@@ -1,7 +1,7 @@
 import java.util.ArrayList;
 import java.util.List;
 
-/** All that can be asked of a river, in some 380 calls; asking changes it, so it is done with the river then. */
+/** Something of all that can be asked of a river, in some 380 calls; asking changes it, so it is done with the river then. */
 final class Probe {
     private final List<String> calls = new ArrayList<>();
     private final List<Long> answers = new ArrayList<>();
