@@ -236,6 +236,13 @@ final class LakeCases extends Cases {
         due("out is water", Rivers.rich().lakeTold(4, 0, 2), outOf4());
         due("without a lake water is what comes", Rivers.rich().told(3, 0, 3), comesTo3());
         due("what comes where there is no lake", Rivers.rich().told(3, 0, 2), comesTo3());
+        RiverCompact x = new RiverCompact();
+        x.lake(2, 5000, 500, 0, 100);
+        x.hold(HOLD, 0, 2, 30, 0);
+        due("a hold takes of what is out: out", x.lakeTold(2, 0, 2), 100);
+        due("a hold takes of what is out: power", x.lakeTold(2, 0, 4), 500);
+        due("a hold takes of what is out: water", x.told(2, 0, 3), 100);
+        due("a hold takes of what is out: on", x.told(2, 0, 4), 70);
     }
 
     /** What comes to reach 3 of the rich river in month 0: 60 out of reach 1 and two sides. */

@@ -185,6 +185,18 @@ final class MonthCases extends Cases {
         due("999 times 1000 by 1", exactSharp(999), 999000);
         due("1000 times 1000 by 1", exactSharp(1000), 1000000);
         due("1001 times 1000 by 1", exactSharp(1001), 1000000);
+        RiverCompact x = new RiverCompact();
+        x.flood(6, 0, 100);
+        x.salt(6, 99);
+        due("9 in 100", x.sharp(0), 90);
+        x.hold(HOLD, 0, 6, 50, 0);
+        due("a hold takes 4 with 50: 5 in 50", x.sharp(0), 100);
+        x.lake(6, 100, 0, 0, 60);
+        due("of 60 with 5 it takes 4 with 50: 1 in 10", x.sharp(0), 100);
+        x.release(6, 80);
+        due("of 80 with 7 it takes 4 with 50: 3 in 30", x.sharp(0), 100);
+        x.release(6, 75);
+        due("of 75 with 6 it takes 4 with 50: 2 in 25", x.sharp(0), 80);
     }
 
     private static int plainSharp(int water, int rate) {

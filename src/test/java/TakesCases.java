@@ -165,6 +165,22 @@ final class TakesCases extends Cases {
         due("990 less 10 and 650 are 1630: it may not", x.takes(0, 2, 1), 0);
         x.lake(5, 9999, 1, 0, 0);
         due("991 of two lakes", x.takes(0, 1, 1), 345);
+        due("may level, 10", wantsByLevelAlone("may level;cut 0;", 2), 500);
+        due("may level, 0", wantsByLevelAlone("may level;cut 0;", 3), 0);
+        due("cut level, 10", wantsByLevelAlone("may 1;cut level;", 2), 450);
+        due("cut level, 0", wantsByLevelAlone("may 1;cut level;", 3), 500);
+        due("nothing but the level, 30", wantsByLevelAlone("may level;cut level;", 0), 350);
+        due("nothing but the level, 10", wantsByLevelAlone("may level;cut level;", 2), 450);
+        due("nothing but the level, 0", wantsByLevelAlone("may level;cut level;", 3), 0);
+    }
+
+    /** What a hold of 500 wants while a lake's level is 30, 20, 10 and then 0. */
+    private static int wantsByLevelAlone(String words, int month) {
+        RiverCompact x = new RiverCompact();
+        x.lake(6, 9999, 30, 0, 10);
+        x.hold(HOLD, 1, 0, 500, 0);
+        x.rule(1, Rivers.text(x, words));
+        return x.takes(0, month, 1);
     }
 
     /** What the last of some holds at reach 0 gets of 100. */
